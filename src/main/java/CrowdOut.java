@@ -58,7 +58,7 @@ public final class CrowdOut {
     /** The ground on which an emptying is tried, so that the world itself does not change. */
     private final World trial = new World();
     private final Reader reader = new Reader();
-    private final Counts counts = new Counts();
+    private final Tellings tellings = new Tellings();
     private final int[] refusals = new int[7];
     private final int[] optionLink = new int[MOST_OPTIONS];
     private final int[] optionWhat = new int[MOST_OPTIONS];
@@ -209,7 +209,7 @@ public final class CrowdOut {
         for (int i = 0; i < n; i++) {
             world.pass();
             for (int l = 0; l < world.linkCount; l++) {
-                counts.note(l, world.tick, world.links[l].went);
+                world.links[l].note(world.tick);
             }
         }
         return world.allOut() - before;
@@ -344,11 +344,11 @@ public final class CrowdOut {
         if (tick < 0 || heads < 0) {
             return refuse(BELOW);
         }
-        if (heads > 99999 || counts.tellings >= MOST_TELLINGS) {
+        if (heads > 99999 || tellings.length >= MOST_TELLINGS) {
             return refuse(FULL);
         }
-        counts.tell(link, tick, heads, world.tick);
-        return counts.tellings;
+        tellings.add(link, tick, heads, world.tick);
+        return tellings.length;
     }
 
     public int count(int link, int tick, int k) {
@@ -361,8 +361,8 @@ public final class CrowdOut {
         if (tick > MOST_TICKS || k > MOST_TICKS) {
             return refuse(FULL);
         }
-        int latest = counts.latest(link, tick, k);
-        return latest < 0 ? NONE : counts.heads[latest];
+        int latest = tellings.latest(link, tick, k);
+        return latest < 0 ? NONE : tellings.heads[latest];
     }
 
     public int wrong(int link, int k) {
@@ -375,7 +375,7 @@ public final class CrowdOut {
         if (k > MOST_TICKS) {
             return refuse(FULL);
         }
-        return counts.off(link, k);
+        return tellings.off(link, k, world.links[link]);
     }
 
     public int out(int block, int what) {
@@ -570,14 +570,13 @@ public final class CrowdOut {
             this.room = Math.max(1, room);
         }
 
+        /** A trial is not asked for the peak and the first fall, so they stay behind. */
         void copyFrom(Area other) {
             heads = other.heads;
             coming = other.coming;
             waits = other.waits;
             push = other.push;
             fell = other.fell;
-            peak = other.peak;
-            firstFell = other.firstFell;
             tight = other.tight;
         }
 
@@ -624,6 +623,8 @@ public final class CrowdOut {
         final int[] way;
         /** The same of all folk together, so that an empty row is passed over. */
         final int[] wayAll;
+        /** What went on each tick; made when somebody first goes, as a trial's and an empty link need none. */
+        private int[] history = new int[0];
 
         Link(int a, int b, int far) {
             this.a = a;
@@ -633,9 +634,9 @@ public final class CrowdOut {
             this.wayAll = new int[2 * this.far];
         }
 
+        /** What went is of a tick alone, and the first tick of a trial begins it anew. */
         void copyFrom(Link other) {
             System.arraycopy(other.setting, 0, setting, 0, setting.length);
-            went = other.went;
             if (other.far == far) {
                 System.arraycopy(other.way, 0, way, 0, way.length);
                 System.arraycopy(other.wayAll, 0, wayAll, 0, wayAll.length);
@@ -645,6 +646,19 @@ public final class CrowdOut {
         /** The row of those who go, or come, on a tick; direction 0 is from a to b. */
         int rowOf(int direction, int tick) {
             return direction * far + tick % far;
+        }
+
+        void note(int tick) {
+            if (went > 0 && history.length == 0) {
+                history = new int[MOST_TICKS + 1];
+            }
+            if (tick >= 0 && tick < history.length) {
+                history[tick] = went;
+            }
+        }
+
+        int wentOn(int tick) {
+            return tick >= 0 && tick < history.length ? history[tick] : 0;
         }
 
         int headsOf(int folk) {
@@ -676,13 +690,12 @@ public final class CrowdOut {
             this.kind = kind;
         }
 
+        /** Between two ticks nobody just came, so there is nothing to copy of that. */
         void copyFrom(Folk other) {
             turned = other.turned;
             System.arraycopy(other.in, 0, in, 0, in.length);
-            System.arraycopy(other.came, 0, came, 0, came.length);
             inAreas = other.inAreas;
             outs = other.outs;
-            lastOut = other.lastOut;
         }
 
         int target() {
@@ -725,9 +738,8 @@ public final class CrowdOut {
         /** All ahead of this one have been heard. */
         int firstUnheard;
 
+        /** Only what is still to be heard: a trial is not asked who gave it, or when. */
         void copyFrom(Given other) {
-            System.arraycopy(other.order, 0, order, 0, other.length);
-            System.arraycopy(other.tick, 0, tick, 0, other.length);
             System.arraycopy(other.act, 0, act, 0, other.length);
             System.arraycopy(other.number, 0, number, 0, other.length);
             System.arraycopy(other.heard, 0, heard, 0, other.length);
@@ -1018,41 +1030,27 @@ public final class CrowdOut {
         }
     }
 
-    /** What went onto the links on each tick, and what was told of it. */
-    private static final class Counts {
-        private final int[][] went = new int[MOST_LINKS][0];
+    /** What was told of the counts, in the order in which it was told. */
+    private static final class Tellings {
         private final int[] link = new int[MOST_TELLINGS];
         private final int[] tick = new int[MOST_TELLINGS];
         private final int[] told = new int[MOST_TELLINGS];
         final int[] heads = new int[MOST_TELLINGS];
-        int tellings;
+        int length;
 
-        /** A link on which nobody goes needs no row. */
-        void note(int l, int t, int gone) {
-            if (gone == 0 || l < 0 || l >= went.length) {
-                return;
-            }
-            if (went[l].length == 0) {
-                went[l] = new int[MOST_TICKS + 1];
-            }
-            if (t >= 0 && t < went[l].length) {
-                went[l][t] = gone;
-            }
-        }
-
-        void tell(int l, int t, int h, int now) {
-            if (tellings < MOST_TELLINGS) {
-                link[tellings] = l;
-                tick[tellings] = t;
-                heads[tellings] = h;
-                told[tellings] = now;
-                tellings++;
+        void add(int l, int t, int h, int now) {
+            if (length < MOST_TELLINGS) {
+                link[length] = l;
+                tick[length] = t;
+                heads[length] = h;
+                told[length] = now;
+                length++;
             }
         }
 
         /** The number of the telling that counted on tick k; -1 if there was none. */
         int latest(int l, int t, int k) {
-            for (int i = tellings - 1; i >= 0; i--) {
+            for (int i = length - 1; i >= 0; i--) {
                 if (link[i] == l && tick[i] == t && told[i] <= k) {
                     return i;
                 }
@@ -1060,13 +1058,11 @@ public final class CrowdOut {
             return -1;
         }
 
-        int off(int l, int k) {
+        int off(int l, int k, Link counted) {
             int all = 0;
-            for (int i = 0; i < tellings; i++) {
+            for (int i = 0; i < length; i++) {
                 if (link[i] == l && latest(l, tick[i], k) == i) {
-                    int t = tick[i];
-                    int gone = t < went[l].length ? went[l][t] : 0;
-                    all += Math.abs(heads[i] - gone);
+                    all += Math.abs(heads[i] - counted.wentOn(tick[i]));
                 }
             }
             return all;
@@ -1096,8 +1092,8 @@ public final class CrowdOut {
         /** The greatest press as a tick ended since an emptying began, and where it was. */
         int topPress;
         int topArea;
-        /** Whether anyone came or went in this tick. */
-        private boolean stirred;
+        /** Whether anyone came to the end of a link in this tick. */
+        private boolean arrived;
         private final int[] stack = new int[MOST_BYTES];
 
         boolean isArea(int i) {
@@ -1140,7 +1136,6 @@ public final class CrowdOut {
                     trains[i] = new Train(from.area, from.first, from.every, from.takes);
                 }
                 trains[i].held = from.held;
-                trains[i].taken = from.taken;
             }
             trainCount = other.trainCount;
             orders = other.orders;
@@ -1267,13 +1262,14 @@ public final class CrowdOut {
             return true;
         }
 
+        /** Nobody came, so that all might have gone, but nobody is on the way: no later tick will find it otherwise. */
         private boolean isStuck() {
-            return !stirred && allOnWay() == 0 && given.firstUnheard == given.length && ordersThatStand() == 0;
+            return !arrived && allOnWay() == 0 && given.firstUnheard == given.length && ordersThatStand() == 0;
         }
 
         void pass() {
             tick++;
-            stirred = false;
+            arrived = false;
             hear();
             comeIn();
             goOn();
@@ -1319,7 +1315,7 @@ public final class CrowdOut {
                 for (int direction = 0; direction < 2; direction++) {
                     int row = link.rowOf(direction, tick);
                     if (link.wayAll[row] > 0) {
-                        stirred = true;
+                        arrived = true;
                         areas[direction == 0 ? link.b : link.a].coming -= link.wayAll[row];
                         link.wayAll[row] = 0;
                         arrive(link, row, direction == 0 ? link.b : link.a);
@@ -1374,7 +1370,6 @@ public final class CrowdOut {
             if (going <= 0) {
                 return;
             }
-            stirred = true;
             link.went += going;
             int row = link.rowOf(direction, tick);
             link.way[row * MOST_FOLK + f] += going;

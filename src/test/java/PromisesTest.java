@@ -34,6 +34,7 @@ public final class PromisesTest {
         promise21Wrong();
         promise22Out();
         promise22GoesOn();
+        promise22AfterEachChange();
         promise22Fell();
         promise23Worst();
         promise24Option();
@@ -105,6 +106,8 @@ public final class PromisesTest {
         due(x.total(1), 20);
         due(x.areaOf(19, 0), 3);
         due(x.areaOf(19, 1), 19);
+        due(x.areaOf(0, 1), 1);
+        due(x.areaOf(1, 1), 20000);
     }
 
     private static void promise3Link() {
@@ -182,6 +185,7 @@ public final class PromisesTest {
         CrowdOut y = new CrowdOut();
         y.area(0, 20000);
         y.area(3, 1);
+        due(y.folk(0, 10000, 1, 0), -6);
         due(y.folk(0, 9999, 1, 0), 0);
         due(y.folk(0, 9999, 1, 0), 1);
         due(y.folk(0, 3, 1, 0), -6);
@@ -274,6 +278,21 @@ public final class PromisesTest {
         due(y.walk(0, 2, false), 55);
         y.set(1, 61);
         due(y.walk(0, 2, false), 5);
+        // the area of number 0, too, and a press of just below
+        CrowdOut z = new CrowdOut();
+        z.area(1, 100);
+        z.area(3, 1);
+        z.area(0, 200);
+        z.link(2, 0, 9, 1);
+        z.link(0, 1, 9, 1);
+        z.folk(0, 99, 1, 0);
+        due(z.walk(2, 1, false), 2);
+        z.folk(0, 1, 1, 0);
+        due(z.walk(2, 1, false), 7);
+        z.set(1, 101);
+        due(z.walk(2, 1, false), 2);
+        z.set(1, 100);
+        due(z.walk(2, 1, false), 7);
     }
 
     private static void promise9Ticks() {
@@ -1016,6 +1035,15 @@ public final class PromisesTest {
         y.ticks(1);
         y.counted(0, 1, 0);
         due(y.wrong(0, 1), 7);
+        // on the last tick of all, and of one head
+        y.ticks(997);
+        y.folk(0, 1, 1, 0);
+        y.linkSet(0, 4, 1);
+        y.ticks(1);
+        y.counted(0, 999, 0);
+        due(y.wrong(0, 998), 7);
+        due(y.wrong(0, 999), 8);
+        due(y.wrong(0, 0), 0);
     }
 
     private static void promise22Out() {
@@ -1129,6 +1157,87 @@ public final class PromisesTest {
         due(w.out(-1, 0), 10 + 1 + 3);
         w.hold(0, true);
         due(w.out(-1, 0), -9);
+        // what waits now waits in it; what is to be heard is heard, though its order is struck and nobody stirs
+        CrowdOut v = line(9, 1, 9, 1);
+        v.folk(1, 9, 2, 0);
+        v.ticks(2);
+        order(v, "w02>8:b01;o01");
+        v.folk(0, 9, 2, 0);
+        v.folk(0, 8, 2, 0);
+        v.linkSet(0, 0, 0);
+        v.linkSet(1, 3, 20);
+        v.ticks(1);
+        v.stand(0, false);
+        v.linkSet(1, 0, 0);
+        v.linkSet(0, 0, 1);
+        due(v.out(-1, 0), 21 + 4 - 1);
+        v.linkSet(1, 3, 0);
+        due(v.out(-1, 0), 24);
+        v.ticks(1);
+        due(v.out(-1, 0), 23);
+    }
+
+    /** Answers are kept while nothing changes: each change must be seen. */
+    private static void promise22AfterEachChange() {
+        promise = "promise 22, after a change";
+        CrowdOut x = line(10, 1, 10, 1);
+        x.folk(0, 40, 2, 0);
+        due(x.out(-1, 0), 7);
+        due(x.out(-1, 1), 30);
+        due(x.worst(1), -9);
+        x.linkSet(0, 4, 20);
+        due(x.out(-1, 0), 7);
+        x.linkSet(1, 4, 20);
+        due(x.out(-1, 0), 5);
+        x.link(0, 2, 40, 1);
+        due(x.out(-1, 0), 2);
+        due(x.worst(0), 2);
+        due(x.worst(1), 5);
+        x.linkSet(2, 0, 0);
+        x.set(0, 100);
+        due(x.out(-1, 0), 5);
+        x.folk(1, 50, 2, 0);
+        tape(x, "t=1:s01");
+        x.order(0);
+        due(x.out(-1, 0) > 0 ? 1 : 0, 1);
+        x.stand(0, true);
+        due(x.out(-1, 0), -9);
+        due(x.design(300, 999, 0), -9);
+        x.stand(0, false);
+        due(x.out(-1, 0) > 0 ? 1 : 0, 1);
+        order(x, "w02>9&t<99:s01");
+        due(x.out(-1, 0), -9);
+        x.train(2, 1, 1, 9999);
+        due(x.out(-1, 0) > 0 ? 1 : 0, 1);
+        x.hold(0, true);
+        due(x.out(-1, 0), -9);
+        x.stand(1, false);
+        int all = x.out(-1, 0);
+        x.ticks(1);
+        due(x.out(-1, 0), all - 1);
+        CrowdOut z = line(100, 1, 1, 1);
+        z.folk(0, 100, 2, 0);
+        due(z.out(-1, 1), 150);
+        z.set(0, 100);
+        due(z.out(-1, 1), 100);
+        CrowdOut y = new CrowdOut();
+        y.area(3, 1);
+        y.area(0, 9);
+        y.folk(1, 9, 0, 0);
+        due(y.worst(0), -9);
+        due(y.design(9, 999, 0), -9);
+        y.link(0, 1, 9, 1);
+        due(y.worst(0), 0);
+        due(y.design(9, 999, 0), -9);
+        y.link(0, 1, 9, 1);
+        due(y.design(9, 999, 0), 0);
+        due(y.design(9, 999, 2), 2);
+        y.linkSet(1, 0, 0);
+        due(y.design(9, 999, 0), -9);
+        y.option(1, 0, 1);
+        due(y.design(9, 999, 0), 1);
+        due(y.design(1, 999, 0), -9);
+        due(y.design(2, 999, 0), 1);
     }
 
     private static void promise22Fell() {
@@ -1169,6 +1278,56 @@ public final class PromisesTest {
         y.ticks(200);
         due(y.total(6), 130);
         due(y.out(-1, 3), 0);
+        // 1 a tick, from the third on, till tick 300 and no further; the area of number 0
+        CrowdOut z = new CrowdOut();
+        z.area(1, 10000);
+        z.area(0, 20000);
+        z.area(3, 1);
+        z.link(1, 0, 999, 1);
+        z.link(0, 2, 1, 1);
+        z.folk(0, 3000, 2, 1);
+        z.folk(1, 9000, 2, 1);
+        z.ticks(1);
+        z.linkSet(1, 0, 0);
+        due(z.out(-1, 3), 0);
+        CrowdOut w = new CrowdOut();
+        w.area(1, 1000);
+        w.area(0, 2000);
+        w.area(3, 1);
+        w.link(1, 0, 999, 1);
+        w.link(0, 2, 1, 9);
+        w.folk(1, 1200, 2, 1);
+        w.ticks(1);
+        w.linkSet(1, 0, 0);
+        due(w.out(-1, 0), -9);
+        due(w.out(-1, 1), 120);
+        due(w.out(-1, 3), 298);
+        // PUSH is as it is now, and so are those who wait
+        CrowdOut v = new CrowdOut();
+        v.area(1, 1000);
+        v.area(0, 2000);
+        v.area(3, 1);
+        v.link(1, 0, 999, 1);
+        v.link(0, 2, 1, 9);
+        v.folk(1, 1200, 2, 1);
+        v.ticks(1);
+        v.linkSet(1, 0, 0);
+        v.ticks(2);
+        due(v.out(-1, 3), 300);
+        CrowdOut u = line(9, 1, 9, 1);
+        u.folk(1, 9, 2, 0);
+        u.ticks(2);
+        u.folk(0, 9, 2, 0);
+        u.linkSet(0, 0, 0);
+        order(u, "w02=9&t=5:o00");
+        due(u.out(-1, 0), 7);
+        w.ticks(2);
+        due(w.areaOf(0, 4), 2);
+        due(w.out(-1, 3), 300);
+        w.ticks(1);
+        due(w.areaOf(0, 5), 1);
+        due(w.total(6), 1);
+        due(w.out(-1, 3), 300);
     }
 
     private static void promise23Worst() {
@@ -1206,6 +1365,71 @@ public final class PromisesTest {
         due(x.worst(0), 3);
         due(x.worst(1), -9);
         due(x.worst(2), 50);
+        // one that lasts 300, and a later one that never ends; then of two that last as long that with more press
+        CrowdOut w = new CrowdOut();
+        w.area(3, 1);
+        w.area(0, 400);
+        w.link(1, 0, 2, 1);
+        w.link(1, 0, 1, 1);
+        w.area(0, 40);
+        w.link(2, 0, 40, 1);
+        w.linkSet(0, 1, 1);
+        w.linkSet(0, 1, 0);
+        w.folk(1, 299, 0, 0);
+        due(w.worst(0), 0);
+        due(w.worst(1), 300);
+        due(w.worst(2), 74);
+        w.folk(2, 4, 0, 0);
+        due(w.worst(0), 2);
+        due(w.worst(1), -9);
+        CrowdOut v = new CrowdOut();
+        v.area(3, 1);
+        v.area(0, 100);
+        v.area(0, 100);
+        v.link(1, 0, 10, 1);
+        v.link(2, 0, 20, 1);
+        v.folk(1, 30, 0, 0);
+        v.folk(2, 40, 0, 0);
+        due(v.worst(0), 1);
+        due(v.worst(1), -9);
+        due(v.worst(2), 40);
+        v.area(1, 9);
+        v.link(1, 3, 1, 9);
+        v.link(1, 3, 1, 9);
+        v.link(0, 1, 10, 2);
+        v.link(0, 2, 10, 3);
+        // without 0 it ends on 5, and a press of 20 or more; without 1, on 7, and one of 30
+        due(v.out(0, 0), 5);
+        due(v.out(1, 0), 7);
+        due(v.worst(0), 1);
+        due(v.worst(2), 30);
+        CrowdOut u = new CrowdOut();
+        u.area(3, 1);
+        u.area(0, 100);
+        u.area(0, 100);
+        u.link(1, 0, 20, 1);
+        u.link(2, 0, 20, 1);
+        u.link(1, 0, 20, 2);
+        u.link(2, 0, 10, 2);
+        u.folk(1, 40, 0, 0);
+        u.folk(2, 30, 0, 0);
+        // without 0: 40 by 20 a tick; without 1: 30 by 10 a tick
+        due(u.out(0, 0), 4);
+        due(u.out(1, 0), 5);
+        due(u.worst(0), 1);
+        u.linkSet(3, 4, 15);
+        due(u.out(1, 0), 4);
+        // both last 4, with a press of 20: the least; then, with link 2 wider, there is less press without link 0
+        due(u.out(0, 1), 20);
+        due(u.out(1, 1), 20);
+        due(u.worst(0), 0);
+        u.linkSet(2, 4, 30);
+        due(u.out(0, 0), 4);
+        due(u.out(0, 1), 10);
+        due(u.out(1, 1), 20);
+        due(u.worst(0), 1);
+        due(u.worst(1), 4);
+        due(u.worst(2), 20);
         // all links count, not the first six alone; of the same the least
         CrowdOut y = new CrowdOut();
         y.area(0, 10);
@@ -1221,6 +1445,18 @@ public final class PromisesTest {
         y.linkSet(8, 0, 0);
         due(y.worst(0), 0);
         due(y.worst(1), -9);
+        for (int i = 10; i < 29; i++) y.link(1, 2, 1, 1);
+        y.link(0, 1, 5, 4);
+        y.linkSet(8, 0, 1);
+        y.linkSet(29, 0, 0);
+        due(y.worst(0), 8);
+        y.linkSet(29, 0, 1);
+        y.linkSet(8, 0, 0);
+        due(y.worst(0), 29);
+        due(y.out(29, 0), -9);
+        due(y.out(28, 0), 5);
+        due(y.out(29, 1), 50);
+        due(y.out(29, 2), 0);
     }
 
     private static void promise24Option() {
@@ -1295,6 +1531,23 @@ public final class PromisesTest {
         due(y.design(4, 999, 0), 5);
         due(y.design(4, 999, 2), 4);
         due(y.design(4, 999, 3), 60);
+        // every choice: folk in area 1 + i needs link 6 + i, which option i opens; the first six lead nowhere
+        for (int bits = 0; bits < 16; bits++) {
+            CrowdOut v = new CrowdOut();
+            v.area(3, 1);
+            for (int i = 0; i < 5; i++) v.area(0, 10);
+            for (int i = 0; i < 6; i++) v.link(5, 1, 1, 1);
+            for (int i = 0; i < 4; i++) {
+                v.link(1 + i, 0, 5, 1);
+                v.linkSet(6 + i, 0, 0);
+                v.option(6 + i, 0, 1);
+                if ((bits >> i & 1) == 1) v.folk(1 + i, 10, 0, 0);
+            }
+            due(v.design(3, 999, 0), bits);
+            due(v.design(3, 999, 1), Integer.bitCount(bits));
+            due(v.design(3, 999, 2), bits == 0 ? 0 : 3);
+            due(v.design(2, 999, 0), bits == 0 ? 0 : -9);
+        }
         // only the first six links are blocked
         CrowdOut z = new CrowdOut();
         z.area(0, 10);
