@@ -882,7 +882,7 @@ public final class CrowdOut {
             return Arrays.copyOf(acts, actCount);
         }
 
-        void readOrs(int deep) {
+        private void readOrs(int deep) {
             readAnds(deep);
             for (int i = 0; i < MOST_BYTES && sign == '|'; i++) {
                 step();

@@ -59,6 +59,8 @@ public final class LanguageTest {
                 "rule 1: the constructor");
         for (Method m : c.getDeclaredMethods())
             due(!Modifier.isPrivate(m.getModifiers()) || !publicNames.contains(m.getName()), "rule 1: private " + m);
+        for (Class<?> inside : c.getDeclaredClasses())
+            for (Method m : inside.getDeclaredMethods()) due(!publicNames.contains(m.getName()), "rule 1: " + m);
         for (Field f : c.getDeclaredFields()) due(Modifier.isPrivate(f.getModifiers()), "rule 1: " + f);
     }
 

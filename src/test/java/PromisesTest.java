@@ -1,9 +1,5 @@
 /** Each promise of the document: ordinary inputs, the edges that it names, and wrong inputs. Answers worked out by hand. */
-public final class PromisesTest {
-    private static int wrong = 0;
-    private static int checks = 0;
-    private static String promise = "";
-
+public final class PromisesTest extends Check {
     public static void main(String[] args) {
         promise1NewObject();
         promise2Area();
@@ -41,46 +37,11 @@ public final class PromisesTest {
         promise25Design();
         promise26Kin();
         promise27Total();
-        System.out.println(checks + " answers, " + wrong + " wrong");
-        if (wrong != 0) System.exit(1);
-    }
-
-    private static void due(int got, int want) {
-        checks++;
-        if (got != want) {
-            wrong++;
-            System.out.println(promise + ", line " + Thread.currentThread().getStackTrace()[2].getLineNumber()
-                    + ": answered " + got + ", due is " + want);
-        }
-    }
-
-    private static void tape(CrowdOut x, String text) {
-        for (int i = 0; i < text.length(); i += 8) {
-            int n = Math.min(8, text.length() - i);
-            long bytes = 0;
-            for (int k = 0; k < n; k++) bytes |= (long) text.charAt(i + k) << 8 * k;
-            x.feed(n, bytes);
-        }
-    }
-
-    private static int order(CrowdOut x, String text) {
-        tape(x, text);
-        return x.order(1);
-    }
-
-    /** 0 PEN of 100, 1 STAIR of 50, 2 GOAL; LINK 0 from 0 to 1, LINK 1 from 1 to 2. */
-    private static CrowdOut line(int wide0, int far0, int wide1, int far1) {
-        CrowdOut x = new CrowdOut();
-        x.area(0, 100);
-        x.area(1, 50);
-        x.area(3, 10);
-        x.link(0, 1, wide0, far0);
-        x.link(1, 2, wide1, far1);
-        return x;
+        end();
     }
 
     private static void promise1NewObject() {
-        promise = "promise 1";
+        about("promise 1");
         CrowdOut x = new CrowdOut();
         for (int what = 0; what <= 17; what++) due(x.total(what), 0);
         due(x.set(0, 150), 150);
@@ -90,7 +51,7 @@ public final class PromisesTest {
     }
 
     private static void promise2Area() {
-        promise = "promise 2";
+        about("promise 2");
         CrowdOut x = new CrowdOut();
         due(x.area(-1, 0), -2);
         due(x.area(4, 1), -2);
@@ -111,7 +72,7 @@ public final class PromisesTest {
     }
 
     private static void promise3Link() {
-        promise = "promise 3";
+        about("promise 3");
         CrowdOut x = new CrowdOut();
         x.area(0, 9);
         x.area(3, 9);
@@ -136,7 +97,7 @@ public final class PromisesTest {
     }
 
     private static void promise4LinkSet() {
-        promise = "promise 4";
+        about("promise 4");
         CrowdOut x = line(1, 1, 1, 1);
         due(x.linkSet(2, 0, 0), -1);
         due(x.linkSet(-1, 9, 0), -1);
@@ -157,7 +118,7 @@ public final class PromisesTest {
     }
 
     private static void promise5Folk() {
-        promise = "promise 5";
+        about("promise 5");
         CrowdOut x = line(1, 1, 1, 1);
         x.area(3, 5);
         due(x.folk(4, 0, 2, 9), -1);
@@ -193,7 +154,7 @@ public final class PromisesTest {
     }
 
     private static void promise6Train() {
-        promise = "promise 6";
+        about("promise 6");
         CrowdOut x = line(9, 1, 9, 1);
         due(x.train(0, -1, 0, 0), -1);
         due(x.train(3, 0, 1, 1), -1);
@@ -236,7 +197,7 @@ public final class PromisesTest {
     }
 
     private static void promise7Hold() {
-        promise = "promise 7";
+        about("promise 7");
         CrowdOut x = line(20, 1, 20, 1);
         x.folk(1, 20, 2, 0);
         due(x.hold(0, true), -1);
@@ -254,7 +215,7 @@ public final class PromisesTest {
     }
 
     private static void promise8Set() {
-        promise = "promise 8";
+        about("promise 8");
         CrowdOut x = new CrowdOut();
         due(x.set(-1, 0), -2);
         due(x.set(3, 0), -2);
@@ -296,7 +257,7 @@ public final class PromisesTest {
     }
 
     private static void promise9Ticks() {
-        promise = "promise 9";
+        about("promise 9");
         CrowdOut x = line(20, 2, 30, 1);
         due(x.ticks(0), -4);
         due(x.ticks(-5), -4);
@@ -317,7 +278,7 @@ public final class PromisesTest {
     }
 
     private static void promise9FreeAndWidth() {
-        promise = "promise 9, WIDE";
+        about("promise 9, WIDE");
         // WIDE is of both ways together: folk 0 from 0 to 2, folk 1 from 2 to 0
         CrowdOut x = new CrowdOut();
         x.area(3, 50);
@@ -357,7 +318,7 @@ public final class PromisesTest {
     }
 
     private static void promise9Room() {
-        promise = "promise 9, room";
+        about("promise 9, room");
         // ROOM 7 at PACE 150: 10 (cut), those on the way to it counted
         CrowdOut x = new CrowdOut();
         x.area(0, 100);
@@ -396,7 +357,7 @@ public final class PromisesTest {
     }
 
     private static void promise9Kin() {
-        promise = "promise 9, KIN";
+        about("promise 9, KIN");
         CrowdOut x = line(10, 1, 10, 1);
         x.folk(0, 4, 2, 0);
         x.folk(0, 7, 2, 1);
@@ -436,7 +397,7 @@ public final class PromisesTest {
     }
 
     private static void promise9WayOnAtThatMoment() {
-        promise = "promise 9, WAY ON";
+        about("promise 9, WAY ON");
         // 1 is tight as the tick begins; folk 0 leaves it, so that folk 1 goes by it and not by 3
         CrowdOut x = new CrowdOut();
         x.area(0, 50);
@@ -484,7 +445,7 @@ public final class PromisesTest {
     }
 
     private static void promise9Turned() {
-        promise = "promise 9, TURN";
+        about("promise 9, TURN");
         // turned on tick 2, while it is on its way to the stair; it comes there on 3 and is home on 6
         CrowdOut x = line(9, 2, 9, 3);
         x.folk(0, 5, 2, 0);
@@ -522,7 +483,7 @@ public final class PromisesTest {
     }
 
     private static void promise10AreaOf() {
-        promise = "promise 10";
+        about("promise 10");
         CrowdOut x = new CrowdOut();
         x.area(2, 30);
         x.area(3, 7);
@@ -591,7 +552,7 @@ public final class PromisesTest {
     }
 
     private static void promise11FolkOf() {
-        promise = "promise 11";
+        about("promise 11");
         CrowdOut x = line(4, 2, 4, 1);
         due(x.folkOf(0, 0, 0), -1);
         x.folk(0, 6, 2, 0);
@@ -627,7 +588,7 @@ public final class PromisesTest {
     }
 
     private static void promise12Next() {
-        promise = "promise 12";
+        about("promise 12");
         CrowdOut x = new CrowdOut();
         x.area(0, 10);
         x.area(1, 10);
@@ -672,7 +633,7 @@ public final class PromisesTest {
     }
 
     private static void promise13Walk() {
-        promise = "promise 13";
+        about("promise 13");
         CrowdOut x = line(9, 2, 9, 3);
         due(x.walk(3, 2, false), -1);
         due(x.walk(0, 1, false), -1);
@@ -696,7 +657,7 @@ public final class PromisesTest {
     }
 
     private static void promise14Feed() {
-        promise = "promise 14";
+        about("promise 14");
         CrowdOut x = new CrowdOut();
         due(x.feed(0, 1), -4);
         due(x.feed(-3, 1), -4);
@@ -717,7 +678,7 @@ public final class PromisesTest {
     }
 
     private static void promise15Order() {
-        promise = "promise 15";
+        about("promise 15");
         CrowdOut x = new CrowdOut();
         tape(x, "t=1:o00");
         due(x.order(2), -2);
@@ -785,7 +746,7 @@ public final class PromisesTest {
     }
 
     private static void promise16Stand() {
-        promise = "promise 16";
+        about("promise 16");
         CrowdOut x = line(1, 1, 1, 1);
         due(x.stand(0, true), -1);
         tape(x, "t>1:o00");
@@ -816,7 +777,7 @@ public final class PromisesTest {
     }
 
     private static void promise17Holds() {
-        promise = "promise 17";
+        about("promise 17");
         CrowdOut x = line(9, 1, 4, 1);
         x.folk(0, 60, 2, 0);
         x.folk(1, 50, 2, 0);
@@ -871,7 +832,7 @@ public final class PromisesTest {
     }
 
     private static void promise18Given() {
-        promise = "promise 18";
+        about("promise 18");
         CrowdOut x = line(9, 1, 9, 1);
         x.folk(0, 5, 2, 0);
         x.train(2, 9, 1, 1);
@@ -931,7 +892,7 @@ public final class PromisesTest {
     }
 
     private static void promise18Beyond200() {
-        promise = "promise 18, 200";
+        about("promise 18, 200");
         CrowdOut x = line(9, 1, 9, 1);
         StringBuilder acts = new StringBuilder("t=0|t>0:s00");
         for (int i = 0; i < 26; i++) acts.append(";o00");
@@ -958,7 +919,7 @@ public final class PromisesTest {
     }
 
     private static void promise19Counted() {
-        promise = "promise 19";
+        about("promise 19");
         CrowdOut x = line(9, 1, 9, 1);
         due(x.counted(2, 9, -1), -1);
         due(x.counted(0, 1, -1), -3);
@@ -975,7 +936,7 @@ public final class PromisesTest {
     }
 
     private static void promise20Count() {
-        promise = "promise 20";
+        about("promise 20");
         CrowdOut x = line(9, 1, 9, 1);
         due(x.count(2, -1, 0), -1);
         due(x.count(0, -1, 1000), -4);
@@ -1001,7 +962,7 @@ public final class PromisesTest {
     }
 
     private static void promise21Wrong() {
-        promise = "promise 21";
+        about("promise 21");
         CrowdOut x = line(9, 1, 4, 1);
         x.folk(0, 20, 2, 0);
         due(x.wrong(2, -1), -1);
@@ -1047,7 +1008,7 @@ public final class PromisesTest {
     }
 
     private static void promise22Out() {
-        promise = "promise 22";
+        about("promise 22");
         CrowdOut x = line(20, 2, 30, 1);
         due(x.out(-2, 9), -1);
         due(x.out(2, 0), -1);
@@ -1117,7 +1078,7 @@ public final class PromisesTest {
     }
 
     private static void promise22GoesOn() {
-        promise = "promise 22, orders";
+        about("promise 22, orders");
         // what was given and is not yet heard shuts the link on tick 6
         CrowdOut x = line(5, 1, 5, 1);
         x.folk(0, 50, 2, 0);
@@ -1179,7 +1140,7 @@ public final class PromisesTest {
 
     /** Answers are kept while nothing changes: each change must be seen. */
     private static void promise22AfterEachChange() {
-        promise = "promise 22, after a change";
+        about("promise 22, after a change");
         CrowdOut x = line(10, 1, 10, 1);
         x.folk(0, 40, 2, 0);
         due(x.out(-1, 0), 7);
@@ -1241,7 +1202,7 @@ public final class PromisesTest {
     }
 
     private static void promise22Fell() {
-        promise = "promise 22, FELL";
+        about("promise 22, FELL");
         CrowdOut x = new CrowdOut();
         x.area(0, 100);
         x.area(1, 10);
@@ -1331,7 +1292,7 @@ public final class PromisesTest {
     }
 
     private static void promise23Worst() {
-        promise = "promise 23";
+        about("promise 23");
         CrowdOut x = new CrowdOut();
         due(x.worst(3), -2);
         due(x.worst(-1), -2);
@@ -1460,7 +1421,7 @@ public final class PromisesTest {
     }
 
     private static void promise24Option() {
-        promise = "promise 24";
+        about("promise 24");
         CrowdOut x = line(9, 1, 9, 1);
         due(x.option(2, 9, 9), -1);
         due(x.option(0, 5, -1), -2);
@@ -1478,7 +1439,7 @@ public final class PromisesTest {
     }
 
     private static void promise25Design() {
-        promise = "promise 25";
+        about("promise 25");
         CrowdOut x = new CrowdOut();
         due(x.design(0, 0, 4), -2);
         due(x.design(0, 1000, 0), -4);
@@ -1568,7 +1529,7 @@ public final class PromisesTest {
     }
 
     private static void promise26Kin() {
-        promise = "promise 26";
+        about("promise 26");
         CrowdOut x = line(3, 3, 1, 1);
         due(x.kin(0), -1);
         x.folk(0, 9, 2, 0);
@@ -1588,7 +1549,7 @@ public final class PromisesTest {
     }
 
     private static void promise27Total() {
-        promise = "promise 27";
+        about("promise 27");
         CrowdOut x = line(9, 1, 9, 1);
         due(x.total(-1), -9);
         due(x.total(18), -9);
