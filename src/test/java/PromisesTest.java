@@ -31,6 +31,7 @@ public final class PromisesTest extends Check {
         promise22Out();
         promise22GoesOn();
         promise22AfterEachChange();
+        promise22AfterAnyTwoChanges();
         promise22Fell();
         promise23Worst();
         promise24Option();
@@ -1136,6 +1137,15 @@ public final class PromisesTest extends Check {
         due(v.out(-1, 0), 24);
         v.ticks(1);
         due(v.out(-1, 0), 23);
+        // it is over as soon as who is at home is turned, though nobody came and no order stands any more
+        CrowdOut u = line(5, 3, 5, 1);
+        u.folk(0, 5, 2, 0);
+        u.linkSet(0, 0, 0);
+        order(u, "t=1:b00");
+        u.ticks(1);
+        u.stand(0, false);
+        due(u.out(-1, 0), 1);
+        due(u.out(-1, 1), 5);
     }
 
     /** Answers are kept while nothing changes: each change must be seen. */
@@ -1199,6 +1209,54 @@ public final class PromisesTest extends Check {
         due(y.design(9, 999, 0), 1);
         due(y.design(1, 999, 0), -9);
         due(y.design(2, 999, 0), 1);
+    }
+
+    /** Whichever two changes come between two questions, the answers are as if it had not been asked ahead of them. */
+    private static void promise22AfterAnyTwoChanges() {
+        Call[] changes = {
+            x -> x.area(0, 9), x -> x.link(0, 2, 9, 2), x -> x.linkSet(1, 4, 3), x -> x.folk(0, 7, 2, 0),
+            x -> x.train(2, 3, 1, 5), x -> x.hold(0, true), x -> x.set(0, 100), x -> x.ticks(1),
+            x -> order(x, "h01>20:s00"), x -> x.stand(0, true), x -> x.option(0, 4, 30)};
+        for (int i = 0; i < changes.length; i++) {
+            for (int j = 0; j < changes.length; j++) {
+                about("promise 22, after the changes " + i + " and " + j);
+                CrowdOut asked = twoWays();
+                answers(asked);
+                CrowdOut unasked = twoWays();
+                changes[i].on(asked);
+                changes[i].on(unasked);
+                changes[j].on(asked);
+                changes[j].on(unasked);
+                int[] got = answers(asked);
+                int[] want = answers(unasked);
+                for (int k = 0; k < want.length; k++) due("answer " + k, got[k], want[k]);
+            }
+        }
+    }
+
+    /** A ground on which nearly every change alters how it empties: of its orders one stands and hangs on the train. */
+    private static CrowdOut twoWays() {
+        CrowdOut x = line(10, 1, 8, 1);
+        x.link(0, 2, 2, 4);
+        x.folk(0, 40, 2, 0);
+        x.folk(1, 9, 2, 1);
+        x.train(2, 2, 2, 50);
+        tape(x, "t=3:s01");
+        x.order(0);
+        order(x, "w02>12:s02;o01");
+        return x;
+    }
+
+    private static int[] answers(CrowdOut x) {
+        int[] all = new int[19];
+        for (int what = 0; what < 4; what++) {
+            all[what] = x.out(-1, what);
+            all[4 + what] = x.out(0, what);
+            all[8 + what] = x.out(1, what);
+            all[12 + what] = x.design(60, 300, what);
+        }
+        for (int what = 0; what < 3; what++) all[16 + what] = x.worst(what);
+        return all;
     }
 
     private static void promise22Fell() {
